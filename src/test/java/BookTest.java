@@ -10,6 +10,7 @@ public final class BookTest {
         papers();
         rules();
         allStays();
+        full();
         Due.end("BookTest");
     }
 
@@ -213,5 +214,35 @@ public final class BookTest {
         Due.due("and another", Due.read(x, "town b; town c;"), 0);
         Due.due("no way", x.way(0, 1), -1);
         Due.due("none told", x.count(5), 0);
+    }
+
+    /** As much of all as there may be; of all that, nothing is left in the BOOKS read behind it. */
+    private static void full() {
+        StringBuilder text = new StringBuilder("town ta;back 1 at 2;town tb;town tc;way ta tb 1;way ta tc 1;way tb tc 1;");
+        for (char c = 'a'; c < 'i'; c++) {
+            text.append("work w").append(c).append(" day 1from 0to 9long 1worth 1;");
+        }
+        for (char c = 'a'; c < 'j'; c++) {
+            text.append("person s").append(c).append(";");
+        }
+        for (char c = 'a'; c < 'm'; c++) {
+            text.append("paper p").append(c).append(" in ta day 1at 90;");
+        }
+        text.append("after pl pk 0;");
+        HourAgain x = Due.of(text.toString());
+        int[] most = {3, 8, 9, 12, 1, 3};
+        for (int what = 0; what < 6; what++) {
+            Due.due("all that may be", x.count(what), most[what]);
+        }
+        Due.fault(text + "way ta tb 1;", 3, text.length() + 7);
+        Due.fault(text + "after pl pl 1;", 3, text.length() + 9);
+        for (int i = 0; i < 3; i++) {
+            Due.due("an empty one", x.book(), 0);
+            for (int what = 0; what < 7; what++) {
+                Due.due("nothing is left", x.count(what), 0);
+            }
+        }
+        Due.due("all again", Due.read(x, text.toString()), 0);
+        Due.due("and again", Due.read(x, text.toString()), 0);
     }
 }

@@ -18,10 +18,14 @@ public final class JourneyTest {
         ways(Due.of(three + "way a b 5; way b c 6; way c a 10;"), new int[][] {{0, 5, 10}, {5, 0, 6}, {10, 6, 0}});
         ways(Due.of(three + "way c a 9999;"), new int[][] {{0, -1, 9999}, {-1, 0, -1}, {9999, -1, 0}});
         ways(Due.of(three + "way c a 9999; way c b 9999;"), new int[][] {{0, 19998, 9999}, {19998, 0, 9999}, {9999, 9999, 0}});
+        int[][] beyond = {{3, 0}, {0, 3}, {3, 3}, {4, 0}, {0, 4}, {4, 4}, {-1, 2}, {2, -1}};
+        for (int[] n : beyond) {
+            Due.due("way beyond three TOWNS", x.way(n[0], n[1]), -1);
+        }
         HourAgain two = Due.of("town a; town b;");
         Due.due("way(0, 1) of none", two.way(0, 1), -1);
         Due.due("way(1, 1)", two.way(1, 1), 0);
-        int[][] none = {{-1, 0}, {0, -1}, {2, 2}, {0, 2}, {2, 0}, {-1, -1}, {Integer.MAX_VALUE, 0}};
+        int[][] none = {{-1, 0}, {0, -1}, {2, 2}, {0, 2}, {2, 0}, {3, 3}, {-1, -1}, {Integer.MAX_VALUE, 0}};
         for (int[] n : none) {
             Due.due("way of none such", two.way(n[0], n[1]), -1);
         }

@@ -25,6 +25,9 @@ public final class MarkTest {
                 Due.due("nothing is on a later one", x.mark(later, true), false);
             }
         }
+        for (int mark = 0; mark < 4; mark++) {
+            Due.due("each holds it", x.mark(mark, true), true);
+        }
         Due.due("the BOOK is as it was", x.shown(0, 1560), 1500);
         Due.due("and has its TOWN", x.count(0), 1);
         Due.due("the TAPE is no part of it", Due.lay(x, "town"), 4);

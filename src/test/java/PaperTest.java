@@ -5,6 +5,7 @@ public final class PaperTest {
     public static void main(String[] args) {
         parts();
         free();
+        askedFirst();
         which();
         rules();
         order();
@@ -56,6 +57,27 @@ public final class PaperTest {
         Due.due("world(4096, 0)", x.world(4096, 0), -1);
         Due.due("before(3, 4)", x.before(3, 4), 5);
         Due.due("sure(11)", x.sure(11), -1);
+        int[] none = {-1, 12, 13, 24};
+        for (int paper : none) {
+            Due.due("none beyond twelve", x.sure(paper), -1);
+            Due.due("none beyond twelve", x.paper(paper, 0), -1);
+            Due.due("none beyond twelve", x.world(0, paper), -1);
+            Due.due("none beyond twelve", x.before(paper, 0), -1);
+            Due.due("none beyond twelve", x.before(0, paper), -1);
+        }
+    }
+
+    /** Each of these asked first of all. */
+    private static void askedFirst() {
+        String text = BEGIN + "paper p in d day 1 at 80; paper q in d day 1 at 70 second;";
+        Due.due("worlds() first", Due.of(text).worlds(), 2);
+        Due.due("world(1, 0) first", Due.of(text).world(1, 0), 1580);
+        Due.due("sure(1) first", Due.of(text).sure(1), 1570);
+        Due.due("before(0, 1) first", Due.of(text).before(0, 1), 5);
+        Due.due("open() first", Due.of(text).open(), 1);
+        Due.due("together() first", Due.of(text).together(), -1);
+        Due.due("together() first, without a WORLD", Due.of(text + "after p q 99;").together(), 3);
+        Due.due("open() first, without a WORLD", Due.of(text + "after p q 99;").open(), -1);
     }
 
     private static void which() {
