@@ -10,6 +10,7 @@ public final class PaperTest {
         rules();
         order();
         apart();
+        chain();
         afterAnotherBook();
         Due.end("PaperTest");
     }
@@ -163,6 +164,20 @@ public final class PaperTest {
         Due.due("of single ones the least", Due.of(three + "paper f in d day 2 at 0 second; paper g in d day 2 at 0 second;")
             .together(), 8);
         Due.due("two rules of the same two", Due.of(three + "after b a 30; within a b 60;").together(), 3);
+    }
+
+    /** A chain of which no link can be missed: the first one's MOMENT is told, and the last one's other one. */
+    private static void chain() {
+        StringBuilder text = new StringBuilder("town tt; back 1 at 2;");
+        for (char c = 'a'; c < 'm'; c++) {
+            text.append("paper ").append(c).append(" in tt day 1 at 90").append(c == 'a' ? " first" : c == 'l' ? " second" : "").append(';');
+        }
+        for (char c = 'b'; c < 'm'; c++) {
+            text.append("within ").append(c).append(' ').append((char) (c - 1)).append(" 30;");
+        }
+        HourAgain x = Due.of(text.toString());
+        Due.due("worlds()", x.worlds(), 0);
+        Due.due("together()", x.together(), 4095);
     }
 
     private static void afterAnotherBook() {

@@ -6,6 +6,7 @@ public final class VoteTest {
         pairs();
         run();
         ties();
+        askedFirst();
         Due.end("VoteTest");
     }
 
@@ -82,6 +83,18 @@ public final class VoteTest {
             nine.append("person ").append((char) ('k' + i)).append(" hour ").append(24 - i).append(" worth ").append(90 + i).append(';');
         }
         votes(Due.of(nine.toString()), 16, 16, 16, -1, 16, 1);
+    }
+
+    /** Each way asked first of all, and behind all others. */
+    private static void askedFirst() {
+        for (int way = 0; way < 6; way++) {
+            Due.due("vote(" + way + ") first", Due.of("person a hour 24 worth 1;").vote(way), 24);
+            HourAgain x = Due.of("person a hour 24 worth 9; person b hour 24 worth 9; person c hour 3 worth 1 hour 2 worth 1;");
+            for (int other = 0; other < 6; other++) {
+                x.vote(other);
+                Due.due("vote(" + way + ") behind " + other, x.vote(way), way == 5 ? 1 : 24);
+            }
+        }
     }
 
     private static void votes(HourAgain x, int... want) {
