@@ -4,6 +4,8 @@ import java.util.NoSuchElementException;
 final class Due {
     private static int wrong = 0;
     private static int asked = 0;
+    private static int sentences = 0;
+    private static String sentence = "";
 
     interface Call {
         int answer();
@@ -12,11 +14,16 @@ final class Due {
     private Due() {
     }
 
+    /** The sentence of the document that is asked from here on; an answer that is not as due names it. */
+    static void promise(int number, String words) {
+        sentences++;
+        sentence = "promise " + number + ", '" + words + "': ";
+    }
+
     static void due(String call, long got, long want) {
         asked++;
         if (got != want) {
-            wrong++;
-            System.out.println(call + " answered " + got + ", due is " + want);
+            tell(call + " answered " + got + ", due is " + want);
         }
     }
 
@@ -24,15 +31,24 @@ final class Due {
         due(call, got ? 1 : 0, want ? 1 : 0);
     }
 
+    static void dueNone(String call, long got) {
+        due(call, got, -1);
+    }
+
     static void dueThrow(String call, Call c) {
         asked++;
         try {
-            int got = c.answer();
-            wrong++;
-            System.out.println(call + " answered " + got + ", due is NoSuchElementException");
+            tell(call + " answered " + c.answer() + ", due is NoSuchElementException");
         } catch (NoSuchElementException e) {
             // as due
+        } catch (RuntimeException e) {
+            tell(call + " threw " + e + ", due is NoSuchElementException");
         }
+    }
+
+    private static void tell(String what) {
+        wrong++;
+        System.out.println(sentence + what);
     }
 
     /** Lays the text on the TAPE, 24 signs a call (a 0 byte is left out by feed). */
@@ -70,8 +86,15 @@ final class Due {
         due("book() of " + text, read(x, text), kind + 16 * place);
     }
 
+    /** Reads a text with a FAULT of this kind at the token behind the sign @, which is no part of it. */
+    static void fault(int kind, String marked) {
+        int place = marked.indexOf('@');
+        fault(marked.substring(0, place) + marked.substring(place + 1), kind, place);
+    }
+
     static void end(String test) {
-        System.out.println(test + ": " + asked + " answers, " + wrong + " not as due");
+        String told = sentences == 0 ? "" : " to " + sentences + " sentences";
+        System.out.println(test + ": " + asked + " answers" + told + ", " + wrong + " not as due");
         if (wrong != 0) {
             System.exit(1);
         }
