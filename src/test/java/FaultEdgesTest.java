@@ -20,6 +20,7 @@ public final class FaultEdgesTest {
         theLeast();
         allStays();
         takenOver();
+        nothingIsLeft();
         Due.end("FaultEdgesTest");
     }
 
@@ -287,5 +288,45 @@ public final class FaultEdgesTest {
         Due.due("worlds()", x.worlds(), 1);
         Due.dueNone("best(1, 0)", x.best(1, 0));
         Due.dueNone("vote(0)", x.vote(0));
+    }
+
+    private static void nothingIsLeft() {
+        String full = "town a;back 1 at 2;town b;back 2 at 3;town c;back 3 at 4;way a b 7;way b c 7;way a c 7;"
+            + "work w day 1 from 0 to 9 long 5 worth 6;person s hour 3 worth 4 hour 24 worth 9;person r hour 1 worth 9;"
+            + "paper p in a day 1 at 61;paper q in a day 1 at 62;after p q 1;";
+        String bare = "town a;town b;town c;work w day 2 from 0 to 9 long 5 worth 6;person s;person r;"
+            + "paper p in a day 1 at 61;paper q in a day 1 at 62;";
+        String[] ahead = {full, full + "+", full + "town"};
+        for (String text : ahead) {
+            Due.promise(3, "it is the BOOK from then on: nothing of one read ahead is left, with a FAULT or without");
+            HourAgain x = new HourAgain();
+            for (int i = 0; i < 3; i++) {
+                Due.due("ahead", Due.read(x, text) == 0, text.equals(full));
+                Due.due("ahead again", Due.read(x, i % 2 == 0 ? text : full) == 0, text.equals(full) || i % 2 == 1);
+                Due.due("book()", Due.read(x, bare), 0);
+                bare(x);
+            }
+        }
+    }
+
+    private static void bare(HourAgain x) {
+        int[] want = {3, 1, 2, 2, 0, 0, 0};
+        for (int what = 0; what < want.length; what++) {
+            Due.due("count(" + what + ")", x.count(what), want[what]);
+        }
+        for (int town = 0; town < 3; town++) {
+            Due.due("backs(" + town + ", 9999999)", x.backs(town, 9999999), 0);
+            Due.due("way(0, " + town + ")", x.way(0, town), town == 0 ? 0 : -1);
+        }
+        Due.dueNone("way(1, 2)", x.way(1, 2));
+        for (int person = 0; person < 2; person++) {
+            for (int stroke = 1; stroke <= 24; stroke++) {
+                Due.due("wish(" + person + ", " + stroke + ")", x.wish(person, stroke), 0);
+            }
+        }
+        Due.due("best(1, 0)", x.best(1, 0), 0);
+        Due.due("most(0, 3649)", x.most(0, 3649), 0);
+        Due.due("worlds()", x.worlds(), 1);
+        Due.due("sure(1)", x.sure(1), 1502);
     }
 }

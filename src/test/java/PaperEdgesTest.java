@@ -320,6 +320,27 @@ public final class PaperEdgesTest {
             Due.dueNone("world(-1, " + paper + ")", x.world(-1, paper));
         }
         Due.dueNone("world(0, 12)", x.world(0, 12));
+        Due.promise(10, "each of 4,096 WORLDS");
+        HourAgain y = x;
+        for (int n = 0; n < 4096; n++) {
+            // An object is used for 512 calls at most.
+            y = n % 400 == 0 ? Due.of(papers(12)) : y;
+            int paper = n % 13 % 12;
+            Due.due("world(" + n + ", " + paper + ")", y.world(n, paper), 1500 + paper + 60 * (n >> 11 - paper & 1));
+        }
+        Due.promise(11, "the first and the last of 12 PAPERS, and none beyond");
+        HourAgain firsts = Due.of(papers(12, " first;"));
+        HourAgain seconds = Due.of(papers(12, " second;"));
+        for (int paper = 0; paper < 12; paper++) {
+            Due.due("sure(" + paper + ") of first", firsts.sure(paper), 1500 + paper);
+            Due.due("sure(" + paper + ") of second", seconds.sure(paper), 1560 + paper);
+            Due.dueNone("sure(" + paper + ") of either", x.sure(paper));
+        }
+        Due.dueNone("sure(12)", firsts.sure(12));
+        Due.dueNone("sure(-1)", firsts.sure(-1));
+        Due.promise(8, "the last of 12 PAPERS, and none beyond");
+        Due.due("paper(11, 2)", x.paper(11, 2), 71);
+        Due.dueNone("paper(12, 2)", x.paper(12, 2));
         Due.promise(12, "the first and the last of 12 PAPERS");
         Due.due("before(0, 11)", x.before(0, 11), 5);
         Due.due("before(11, 0)", x.before(11, 0), 5);

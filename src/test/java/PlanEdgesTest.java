@@ -146,6 +146,11 @@ public final class PlanEdgesTest {
         row(Due.of("town d;back 1 at 2;work v day 1 from 119 to 120 long 60 worth 1;work w day 1 from 119 to 120 long 60 worth 1;"), 1, 2, 3, 1, 1, 0, 1559, 1, 1619);
         row(Due.of("town d;back 1 at 2;work v day 1 from 120 to 121 long 1 worth 1;work w day 1 from 120 to 121 long 1 worth 1;"), 1, 1, 1, 0, 1, 0, 1620);
         row(Due.of("town d;back 1 at 2;work v day 1 from 59 to 60 long 1 worth 1;work w day 1 from 59 to 60 long 1 worth 1;"), 1, 1, 1, 0, 1, 0, 1499);
+        Due.promise(16, "each in its own minutes, not in those that another one has twice");
+        row(Due.of("town d;back 1 at 2;work v day 1 from 60 to 61 long 1 worth 1;work w day 1 from 200 to 201 long 1 worth 1;work u day 1 from 200 to 201 long 1 worth 1;"),
+            1, 2, 3, 0, 2, 0, 1500, 1, 1700);
+        row(Due.of("town d;back 1 at 2;work v day 1 from 200 to 201 long 1 worth 1;work w day 1 from 60 to 61 long 1 worth 1;work u day 1 from 200 to 201 long 1 worth 1;"),
+            1, 2, 3, 0, 2, 1, 1500, 0, 1700);
         Due.promise(16, "a row over the whole of both hours");
         row(Due.of("town d;back 1 at 2;work v day 1 from 0 to 180 long 120 worth 1;work w day 1 from 0 to 120 long 59 worth 1;work u day 1 from 0 to 120 long 1 worth 1;"),
             1, 3, 7, 0, 3, 0, 1440, 1, 1560, 2, 1619);

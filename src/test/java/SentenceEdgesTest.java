@@ -298,7 +298,7 @@ public final class SentenceEdgesTest {
             text.append("paper y").append(c).append(" in c day1at90;");
         }
         for (int i = 0; i < 16; i++) {
-            text.append("after ya yb0;");
+            text.append(i % 2 == 0 ? "after ya yl0;" : "after yl yk0;");
         }
         HourAgain x = Due.of(text.toString());
         int[] want = {3, 8, 9, 12, 16, 3};

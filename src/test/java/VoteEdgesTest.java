@@ -25,6 +25,8 @@ public final class VoteEdgesTest {
         prefers();
         prefersRange();
         nine();
+        askedBehindAnother();
+        firstAndLast();
         Due.end("VoteEdgesTest");
     }
 
@@ -144,6 +146,8 @@ public final class VoteEdgesTest {
         Due.promise(20, "RUN: as PLAIN among those left: of equal ones the least of those");
         // 20 goes, and then, all but 3 and 8 being struck out, its vote is for 3.
         vote(RUN, 3, "person a hour 8 worth 1;person b hour 8 worth 1;person c hour 3 worth 1;person d hour 3 worth 1;person e hour 20 worth 1;");
+        // The vote for 20 goes to 3, which has as many as 8 then; it is not lost.
+        vote(RUN, 3, "person a hour 8 worth 1;person b hour 8 worth 1;person c hour 3 worth 1;person d hour 20 worth 1;");
         Due.promise(20, "RUN: or just one is left");
         vote(RUN, 8, "person a hour 9 worth 1;person b hour 8 worth 1;");
         vote(RUN, 23, "person a hour 24 worth 2 hour 23 worth 1;person b hour 23 worth 2 hour 24 worth 1;");
@@ -236,6 +240,47 @@ public final class VoteEdgesTest {
         Due.promise(21, "all 9 PERSONS told");
         Due.due("prefers(24, 1)", x.prefers(24, 1), 9);
         Due.due("prefers(1, 2)", x.prefers(1, 2), 8);
+    }
+
+    private static void askedBehindAnother() {
+        Due.promise(20, "by a way: whatever other way was asked ahead of it");
+        String text = "person a hour 5 worth 90 hour 20 worth 2;person b hour 6 worth 90 hour 20 worth 3;person c hour 6 worth 1 hour 2 worth 1;";
+        for (int way = 0; way <= 5; way++) {
+            int want = Due.of(text).vote(way);
+            HourAgain x = Due.of(text);
+            for (int other = 0; other <= 5; other++) {
+                x.vote(other);
+                Due.due("vote(" + way + ") behind " + other, x.vote(way), want);
+            }
+        }
+        Due.promise(20, "by a way: unlike ones choose unlike strokes");
+        String unlike = "person a hour 5 worth 90;person b hour 6 worth 2 hour 11 worth 1;person c hour 6 worth 2 hour 11 worth 1;"
+            + "person d hour 12 worth 3 hour 11 worth 1;";
+        int[] want = {6, 5, 11, 6, 5, 1};
+        HourAgain y = Due.of(unlike);
+        for (int way = 0; way <= 5; way++) {
+            for (int other = 0; other <= 5; other++) {
+                Due.due("vote(" + other + ")", y.vote(other), want[other]);
+                Due.due("vote(" + way + ")", y.vote(way), want[way]);
+            }
+        }
+    }
+
+    private static void firstAndLast() {
+        Due.promise(20, "strokes 1 to 24: the first counts as any other");
+        for (int way = 0; way <= 5; way++) {
+            vote(way, 1, "person a hour 1 worth 5 hour 2 worth 4 hour 24 worth 4;person b hour 1 worth 5 hour 2 worth 4 hour 24 worth 4;");
+            vote(way, 2, "person a hour 1 worth 4 hour 2 worth 5 hour 24 worth 4;person b hour 1 worth 4 hour 2 worth 5 hour 24 worth 4;");
+        }
+        Due.promise(20, "strokes 1 to 24: the last counts as any other");
+        for (int way = 0; way <= 5; way++) {
+            vote(way, 24, "person a hour 24 worth 5 hour 1 worth 4 hour 23 worth 4;person b hour 24 worth 5 hour 1 worth 4 hour 23 worth 4;");
+        }
+        Due.promise(20, "PLACES: strokes that are worth less, the first and the last of them too");
+        // 3 has 23 points, 1 and 4 have 22 each.
+        vote(PLACES, 3, "person a hour 4 worth 1 hour 1 worth 1;person b hour 3 worth 1;");
+        // 5 has 23 points, 4 and 24 have 22 each.
+        vote(PLACES, 5, "person a hour 4 worth 1 hour 24 worth 1;person b hour 5 worth 1;");
     }
 
     private static void vote(int way, int want, String text) {
