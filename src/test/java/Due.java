@@ -1,10 +1,11 @@
 import java.util.NoSuchElementException;
+import java.util.TreeSet;
 
 /** What the tests share: feeding a text, comparing answers, and the exit code. */
 final class Due {
     private static int wrong = 0;
     private static int asked = 0;
-    private static int sentences = 0;
+    private static final TreeSet<String> SENTENCES = new TreeSet<>();
     private static String sentence = "";
 
     interface Call {
@@ -16,8 +17,8 @@ final class Due {
 
     /** The sentence of the document that is asked from here on; an answer that is not as due names it. */
     static void promise(int number, String words) {
-        sentences++;
         sentence = "promise " + number + ", '" + words + "': ";
+        SENTENCES.add(sentence);
     }
 
     static void due(String call, long got, long want) {
@@ -93,7 +94,7 @@ final class Due {
     }
 
     static void end(String test) {
-        String told = sentences == 0 ? "" : " to " + sentences + " sentences";
+        String told = SENTENCES.isEmpty() ? "" : " to " + SENTENCES.size() + " sentences";
         System.out.println(test + ": " + asked + " answers" + told + ", " + wrong + " not as due");
         if (wrong != 0) {
             System.exit(1);
